@@ -425,8 +425,7 @@ public final class IceRegatta {
             if (from == NONE) {
                 return NONE;
             }
-            foot = from;
-            head = cellBeyond(from, way, longest);
+            layLeg(from, way, longest);
             return longest;
         }
 
@@ -451,9 +450,13 @@ public final class IceRegatta {
             if (from == NONE) {
                 return NONE;
             }
-            foot = from;
-            head = cellBeyond(from, way, longest);
+            layLeg(from, way, longest);
             return fewest;
+        }
+
+        private void layLeg(int from, int way, int length) {
+            foot = from;
+            head = cellBeyond(from, way, length);
         }
 
         private int unlikeMarks(int otherFoot, int otherHead) {

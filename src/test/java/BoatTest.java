@@ -9,14 +9,13 @@ public final class BoatTest {
         leeward();
         ahead();
         firstThatApplies();
+        withoutRights();
         clearEdges();
         C.end();
     }
 
     private static IceRegatta two(String rule) {
-        IceRegatta x = new IceRegatta();
-        x.boat();
-        x.boat();
+        IceRegatta x = Check.with(2);
         Check.tell(x, rule);
         return x;
     }
@@ -143,6 +142,24 @@ public final class BoatTest {
         x.place(1, 500, 200, 6);
         C.due(0, () -> x.clear(0, 1));
         Check.tell(x, "way ahead leeward;");
+        C.due(-1, () -> x.clear(0, 1));
+    }
+
+    private static void withoutRights() {
+        C.part("promise 18");
+        IceRegatta x = Check.with(2);
+        x.place(0, 0, 0, 7);
+        x.place(1, 0, 0, 1);
+        C.due(-1, () -> x.clear(0, 1));
+        Check.tell(x, "ice 5;");
+        C.due(-1, () -> x.clear(0, 1));
+        Check.tell(x, "way leeward starboard;");
+        C.due(1, () -> x.clear(0, 1));
+        Check.tell(x, "ice 5;");
+        C.due(-1, () -> x.clear(0, 1));
+        Check.tell(x, "way starboard;");
+        C.due(1, () -> x.clear(0, 1));
+        Check.tell(x, "");
         C.due(-1, () -> x.clear(0, 1));
     }
 

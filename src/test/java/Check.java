@@ -54,6 +54,21 @@ final class Check {
         }
     }
 
+    static IceRegatta with(int boats) {
+        IceRegatta x = new IceRegatta();
+        for (int i = 0; i < boats; i++) {
+            x.boat();
+        }
+        return x;
+    }
+
+    static void race(IceRegatta x, int... finishers) {
+        for (int boat : finishers) {
+            x.finish(boat);
+        }
+        x.end();
+    }
+
     /** Feeds a text, filled up with blanks to whole feeds. */
     static void feed(IceRegatta x, String text) {
         StringBuilder all = new StringBuilder(text);

@@ -203,5 +203,9 @@ public final class CourseTest {
         C.due(false, () -> x.holds());
         Check.tell(x, "ice 147;");
         C.due(true, () -> x.holds());
+        IceRegatta least = new IceRegatta();
+        safe(least, 0, 12);
+        C.due(1, () -> least.course());
+        C.due(true, () -> least.holds());
     }
 }

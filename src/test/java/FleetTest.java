@@ -14,21 +14,6 @@ public final class FleetTest {
         C.end();
     }
 
-    private static IceRegatta with(int boats) {
-        IceRegatta x = new IceRegatta();
-        for (int i = 0; i < boats; i++) {
-            x.boat();
-        }
-        return x;
-    }
-
-    private static void race(IceRegatta x, int... finishers) {
-        for (int boat : finishers) {
-            x.finish(boat);
-        }
-        x.end();
-    }
-
     private static String fleets(IceRegatta x) {
         StringBuilder all = new StringBuilder();
         for (int boat = 0; boat < x.count(0); boat++) {
@@ -47,10 +32,10 @@ public final class FleetTest {
 
     private static void part() {
         C.part("promise 24");
-        IceRegatta x = with(0);
+        IceRegatta x = Check.with(0);
         C.due(0, () -> x.part(16));
-        IceRegatta five = with(5);
-        race(five, 4, 2, 0, 1, 3);
+        IceRegatta five = Check.with(5);
+        Check.race(five, 4, 2, 0, 1, 3);
         C.due(2, () -> five.part(2));
         C.due("11010", () -> fleets(five));
         C.due(0, () -> five.part(0));
@@ -69,10 +54,10 @@ public final class FleetTest {
 
     private static void promote() {
         C.part("promise 25");
-        IceRegatta x = with(0);
+        IceRegatta x = Check.with(0);
         C.due(0, () -> x.promote(16));
-        IceRegatta six = with(6);
-        race(six, 5, 4, 3, 2, 1, 0);
+        IceRegatta six = Check.with(6);
+        Check.race(six, 5, 4, 3, 2, 1, 0);
         C.due(0, () -> six.promote(3));
         C.due(4, () -> six.part(4));
         C.due("110000", () -> fleets(six));
@@ -100,10 +85,10 @@ public final class FleetTest {
 
     private static void promoteByRankNow() {
         C.part("promise 25");
-        IceRegatta x = with(6);
+        IceRegatta x = Check.with(6);
         C.due(3, () -> x.part(3));
         C.due("000111", () -> fleets(x));
-        race(x, 5, 0, 4, 2, 1, 3);
+        Check.race(x, 5, 0, 4, 2, 1, 3);
         C.due(1, () -> x.promote(1));
         C.due("010110", () -> fleets(x));
         C.due(2, () -> x.promote(2));
@@ -112,7 +97,7 @@ public final class FleetTest {
 
     private static void fleet() {
         C.part("promise 26");
-        IceRegatta x = with(2);
+        IceRegatta x = Check.with(2);
         C.due("00", () -> fleets(x));
         x.part(0);
         C.due("11", () -> fleets(x));
@@ -126,7 +111,7 @@ public final class FleetTest {
 
     private static void noise() {
         C.part("promise 27");
-        IceRegatta x = with(0);
+        IceRegatta x = Check.with(0);
         for (int i = 1; i <= 20; i++) {
             int many = i;
             C.due(many, () -> x.noise(-many));
@@ -138,7 +123,7 @@ public final class FleetTest {
 
     private static void draw() {
         C.part("promise 28");
-        IceRegatta x = with(0);
+        IceRegatta x = Check.with(0);
         C.due(-1, () -> x.draw());
         x.noise(5);
         C.due(-1, () -> x.draw());
@@ -168,7 +153,7 @@ public final class FleetTest {
 
     private static void lot() {
         C.part("promise 29");
-        IceRegatta x = with(16);
+        IceRegatta x = Check.with(16);
         C.due(-1, () -> x.lot(0));
         for (int i = 0; i < 15; i++) {
             x.noise(0);
@@ -179,7 +164,7 @@ public final class FleetTest {
         C.due(-1, () -> x.lot(16));
         C.due(-1, () -> x.lot(-1));
         C.due(-1, () -> x.lot(Integer.MIN_VALUE));
-        IceRegatta later = with(2);
+        IceRegatta later = Check.with(2);
         later.noise(1);
         later.draw();
         later.boat();
@@ -189,7 +174,7 @@ public final class FleetTest {
 
     private static void count() {
         C.part("promise 30");
-        IceRegatta x = with(3);
+        IceRegatta x = Check.with(3);
         x.end();
         x.end();
         Check.tell(x, "ice 9;ice 8;ice 7;ice 6;");

@@ -142,6 +142,10 @@ public final class IceTest {
         C.due("5000 5000", () -> x.ice(7, 0) + " " + x.ice(7, 1));
         x.crack(7, true);
         C.due(0, () -> x.hour(0));
+        x.sound(7, 30, 0);
+        x.hour(-1);
+        C.due("30 31", () -> x.ice(7, 0) + " " + x.ice(7, 1));
+        x.sound(7, 5000, 0);
         C.due(Check.ARGUMENT, () -> x.hour(21));
         C.due(Check.ARGUMENT, () -> x.hour(-41));
         C.due(Check.ARGUMENT, () -> x.hour(Integer.MIN_VALUE));

@@ -12,21 +12,6 @@ public final class RaceTest {
         C.end();
     }
 
-    private static IceRegatta with(int boats) {
-        IceRegatta x = new IceRegatta();
-        for (int i = 0; i < boats; i++) {
-            x.boat();
-        }
-        return x;
-    }
-
-    private static void race(IceRegatta x, int... finishers) {
-        for (int boat : finishers) {
-            x.finish(boat);
-        }
-        x.end();
-    }
-
     private static String ranks(IceRegatta x) {
         StringBuilder all = new StringBuilder();
         for (int k = 0; k < x.count(0); k++) {
@@ -37,7 +22,7 @@ public final class RaceTest {
 
     private static void finish() {
         C.part("promise 19");
-        IceRegatta x = with(3);
+        IceRegatta x = Check.with(3);
         C.due(1, () -> x.finish(2));
         C.due(-1, () -> x.finish(2));
         C.due(2, () -> x.finish(0));
@@ -59,7 +44,7 @@ public final class RaceTest {
 
     private static void end() {
         C.part("promise 20");
-        IceRegatta x = with(0);
+        IceRegatta x = Check.with(0);
         C.due(-1, () -> x.end());
         C.due(0, () -> x.count(1));
         x.boat();
@@ -75,8 +60,8 @@ public final class RaceTest {
 
     private static void points() {
         C.part("promise 21");
-        IceRegatta x = with(3);
-        race(x, 2, 0);
+        IceRegatta x = Check.with(3);
+        Check.race(x, 2, 0);
         C.due(2, () -> x.points(0, 0));
         C.due(4, () -> x.points(1, 0));
         C.due(1, () -> x.points(2, 0));
@@ -95,19 +80,19 @@ public final class RaceTest {
         C.due(Check.BOUNDS, () -> x.points(-1, 0));
         C.due(Check.BOUNDS, () -> x.points(0, 2));
         C.due(Check.BOUNDS, () -> x.points(0, -1));
-        IceRegatta full = with(16);
-        race(full, 15);
+        IceRegatta full = Check.with(16);
+        Check.race(full, 15);
         C.due(17, () -> full.points(0, 0));
         C.due(1, () -> full.points(15, 0));
     }
 
     private static void score() {
         C.part("promise 22");
-        IceRegatta x = with(3);
+        IceRegatta x = Check.with(3);
         C.due(0, () -> x.score(0));
-        race(x, 0, 1, 2);
-        race(x, 1, 0);
-        race(x, 0);
+        Check.race(x, 0, 1, 2);
+        Check.race(x, 1, 0);
+        Check.race(x, 0);
         C.due(4, () -> x.score(0));
         C.due(7, () -> x.score(1));
         C.due(11, () -> x.score(2));
@@ -131,30 +116,36 @@ public final class RaceTest {
         C.due(12, () -> x.score(3));
         C.due(Check.BOUNDS, () -> x.score(4));
         C.due(Check.BOUNDS, () -> x.score(-1));
-        IceRegatta long20 = with(16);
+        IceRegatta long20 = Check.with(16);
         for (int race = 0; race < 20; race++) {
-            race(long20);
+            Check.race(long20);
         }
         C.due(340, () -> long20.score(7));
         Check.tell(long20, "drop 19 from 20;");
         C.due(17, () -> long20.score(7));
+        IceRegatta unlike = Check.with(16);
+        Check.race(unlike, 0);
+        Check.race(unlike, 0);
+        Check.tell(unlike, "drop 1 from 2;");
+        C.due(17, () -> unlike.score(7));
+        C.due(1, () -> unlike.score(0));
     }
 
     private static void rank() {
         C.part("promise 23");
-        IceRegatta x = with(4);
+        IceRegatta x = Check.with(4);
         C.due("0 1 2 3", () -> ranks(x));
-        race(x, 3, 1, 0, 2);
+        Check.race(x, 3, 1, 0, 2);
         C.due("3 1 0 2", () -> ranks(x));
         C.due(-1, () -> x.rank(4));
         C.due(-1, () -> x.rank(-1));
         C.due(-1, () -> x.rank(Integer.MAX_VALUE));
         C.due(-1, () -> x.rank(Integer.MIN_VALUE));
-        race(x, 2);
+        Check.race(x, 2);
         C.due("2 3 1 0", () -> ranks(x));
         Check.tell(x, "drop 1 from 2;");
         C.due("2 3 1 0", () -> ranks(x));
-        race(x, 0, 3);
+        Check.race(x, 0, 3);
         C.due("3 0 2 1", () -> ranks(x));
         x.boat();
         C.due("3 0 2 1 4", () -> ranks(x));
@@ -162,21 +153,29 @@ public final class RaceTest {
 
     private static void rankByLaterRaces() {
         C.part("promise 23");
-        IceRegatta x = with(3);
-        race(x, 0, 1, 2);
-        race(x, 2, 1, 0);
+        IceRegatta x = Check.with(3);
+        Check.race(x, 0, 1, 2);
+        Check.race(x, 2, 1, 0);
         C.due("2 1 0", () -> ranks(x));
-        race(x);
+        Check.race(x);
         C.due("2 1 0", () -> ranks(x));
-        race(x, 1, 0, 2);
-        race(x, 2, 0, 1);
+        Check.race(x, 1, 0, 2);
+        Check.race(x, 2, 0, 1);
         C.due("12 12 12", () -> x.score(0) + " " + x.score(1) + " " + x.score(2));
         C.due("2 0 1", () -> ranks(x));
-        IceRegatta unfinished = with(16);
-        race(unfinished);
+        IceRegatta allDropped = Check.with(3);
+        Check.tell(allDropped, "drop 9 from 1;");
+        Check.race(allDropped, 2, 1, 0);
+        C.due("2 1 0", () -> ranks(allDropped));
+        Check.race(allDropped);
+        C.due("2 1 0", () -> ranks(allDropped));
+        Check.race(allDropped, 1);
+        C.due("1 2 0", () -> ranks(allDropped));
+        IceRegatta unfinished = Check.with(16);
+        Check.race(unfinished);
         C.due("0 1 2 3 4 5 6 7 8 9 10 11 12 13 14 15", () -> ranks(unfinished));
-        race(unfinished, 15);
-        race(unfinished, 14);
+        Check.race(unfinished, 15);
+        Check.race(unfinished, 14);
         C.due("14 15 0 1 2 3 4 5 6 7 8 9 10 11 12 13", () -> ranks(unfinished));
     }
 }

@@ -128,6 +128,7 @@ public final class RuleTest {
         String[] textsAndFaults = {
             "ice", "-9 at 3", "ice   ", "-9 at 6", "ice 5", "-9 at 5", "ice 5  ", "-9 at 7",
             "ic", "-9 at 0", "icee 5;", "-9 at 0", "  ices;", "-9 at 2", "ICE 5;", "-9 at 0", "icE 5;", "-9 at 0",
+            "oce 5;", "-9 at 0", "icez 5;", "-9 at 0", "ice{5;", "-9 at 3", "ice`5;", "-9 at 3", "ice 5/;", "-9 at 5", "ice 5:;", "-9 at 5",
             ";", "-9 at 0", "  ;", "-9 at 2", "ice 5;;", "-9 at 6", "5;", "-9 at 0", "5001;", "-9 at 0",
             "ice;", "-9 at 3", "ice x;", "-9 at 4", "ice -5;", "-9 at 4", "ice 5 6;", "-9 at 6", "ice 5x;", "-9 at 5",
             "ice 5,", "-9 at 5", "ice 5.0;", "-9 at 5", "ice\t5;", "-9 at 3", "ice 5;\n", "-9 at 6",
@@ -151,6 +152,7 @@ public final class RuleTest {
         C.due("-8 at 4", () -> Check.told(x, "ice 5001"));
         C.due("-8 at 3", () -> Check.told(x, "ice5001 what;"));
         C.due("-8 at 6", () -> Check.told(x, "drop  5001;"));
+        C.due("-8 at 5", () -> Check.told(x, "drop 5001 from x"));
         C.due("-8 at 12", () -> Check.told(x, "drop 1 from 99999;"));
         C.due("-8 at 4", () -> Check.told(x, "ice 4294967296;"));
         C.due("-8 at 4", () -> Check.told(x, "ice 18446744073709551616;"));
