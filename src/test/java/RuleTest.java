@@ -6,6 +6,7 @@ public final class RuleTest {
         feed();
         rule();
         ruleTakesTheTape();
+        ruleReadsNoFurther();
         lastOfAKindCounts();
         faults();
         numberFaults();
@@ -87,6 +88,22 @@ public final class RuleTest {
         C.due(0, () -> x.rule(0));
         C.due(0, () -> x.count(5));
         C.due(0, () -> x.count(2));
+    }
+
+    private static void ruleReadsNoFurther() {
+        C.part("promise 14");
+        IceRegatta x = new IceRegatta();
+        String[] textsAndFaults = {"ice 5;", "-9 at 5", "ice 15;", "-9 at 5", "icex;", "-9 at 3", "way ahead;", "-9 at 4", "     ;", "0 at -1"};
+        int[] lengths = {5, 5, 3, 8, 5};
+        for (int i = 0; i < lengths.length; i++) {
+            Check.feed(x, textsAndFaults[2 * i]);
+            int n = lengths[i];
+            C.due(textsAndFaults[2 * i + 1], () -> x.rule(n) + " at " + x.fault());
+        }
+        Check.feed(x, "ice 50001;");
+        C.due("-9 at 8", () -> x.rule(8) + " at " + x.fault());
+        Check.feed(x, "ice 5000;ice 1;");
+        C.due("1 at -1", () -> x.rule(9) + " at " + x.fault());
     }
 
     private static void lastOfAKindCounts() {
