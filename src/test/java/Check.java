@@ -4,6 +4,10 @@ final class Check {
         Object answer();
     }
 
+    interface IntCall {
+        Object answer(int n);
+    }
+
     static final String BOUNDS = "throws.IndexOutOfBoundsException";
     static final String ARGUMENT = "throws.IllegalArgumentException";
     static final String STATE = "throws.IllegalStateException";
@@ -30,6 +34,26 @@ final class Check {
         String got = answerOf(call);
         if (!got.equals(String.valueOf(want))) {
             fail(" answered " + got + ", due is " + want);
+        }
+    }
+
+    /** The last numbers that are taken and the first that are refused on both sides, and far ones, also such that an int, a short or a byte would wrap round. */
+    void takes(int least, int most, String refusal, IntCall call) {
+        for (int n : new int[] {least, most}) {
+            calls++;
+            String got = answerOf(() -> call.answer(n));
+            if (got.startsWith("throws.")) {
+                fail(" of " + n + " answered " + got);
+            }
+        }
+        int[] refused = {
+            least - 1, most + 1, least - 256, least + 256 * 256, least + (1 << 24), least | 1 << 31,
+            Integer.MIN_VALUE, Integer.MIN_VALUE + 1, Integer.MAX_VALUE, Integer.MAX_VALUE - 1,
+        };
+        for (int n : refused) {
+            if (n < least || n > most) {
+                due(refusal, () -> call.answer(n));
+            }
         }
     }
 
