@@ -16,6 +16,7 @@ public final class CourseEdgesTest {
         greatestLengthOfThese();
         leastFootOfThese();
         movedWithLeast();
+        movedFromEachFoot();
         windWay();
         courseStays();
         moveStays();
@@ -267,6 +268,32 @@ public final class CourseEdgesTest {
             C.due("132 to " + (132 + least), () -> marks(x));
             C.due(0, () -> x.move(1));
             C.due(0, () -> x.move(least));
+        }
+    }
+
+    private static void movedFromEachFoot() {
+        C.part("MOVED: of all LEGS: each CELL may be the FOOT, and each the HEAD");
+        for (int way = 0; way < 8; way++) {
+            for (int cell = 0; cell < 144; cell++) {
+                int nextX = cell % 12 + STEP_X[way];
+                int nextY = cell / 12 + STEP_Y[way];
+                if (nextX < 0 || nextX > 11 || nextY < 0 || nextY > 11) {
+                    continue;
+                }
+                int next = 12 * nextY + nextX;
+                int foot = cell;
+                IceRegatta x = lake(0, 78, 66);
+                x.course();
+                x.sound(78, 0, 0);
+                x.sound(66, 0, 0);
+                x.wind(way);
+                x.sound(foot, 150, 0);
+                x.sound(next, 150, 0);
+                int others = (foot == 78 ? 0 : 1) + (next == 66 ? 0 : 1);
+                C.due(others, () -> x.move(1));
+                C.due(foot + " to " + next, () -> marks(x));
+                C.due(true, () -> x.holds());
+            }
         }
     }
 

@@ -147,6 +147,17 @@ public final class RuleEdgesTest {
             dueFault("-9 at 0", word + ";");
             dueFault("-9 at 0", word + " 1;");
         }
+        for (String word : new String[] {"xce", "ixe", "icx", "xrop", "drox", "xay", "wxy", "wax"}) {
+            dueFault("-9 at 0", word + " 1;");
+            dueFault("-9 at 0", word + " ahead;");
+            dueFault("-9 at 0", word + " 1 from 1;");
+        }
+        for (String word : new String[] {"xrom", "frox", "ice", "ahead"}) {
+            dueFault("-9 at 7", "drop 1 " + word + " 2;");
+        }
+        for (String word : new String[] {"xtarboard", "starboarx", "xeeward", "leewarx", "xhead", "aheax", "from", "way"}) {
+            dueFault("-9 at 4", "way " + word + ";");
+        }
         dueFault("-9 at 7", "drop 1 fro 2;");
         dueFault("-9 at 7", "drop 1 fromm 2;");
         dueFault("-9 at 6", "drop 1fro2;");
@@ -278,6 +289,16 @@ public final class RuleEdgesTest {
         dueFault("-9 at 58", "ice 1;".repeat(9) + "ice what;ice 1;");
         dueFault("-8 at 58", "ice 1;".repeat(9) + "ice 5001;ice 1;");
         dueFault("-9 at 3", "   what");
+        dueFault("-8 at 12", "drop 1 from 5001;what");
+        dueFault("-8 at 12", "drop 1 from 5001 what");
+        dueFault("-8 at 12", "drop 1 from 5001");
+        dueFault("-9 at 11", "drop 1 from;what");
+        dueFault("-9 at 11", "drop 1 from;ice 5001;");
+        dueFault("-8 at 5", "drop 5001;what");
+        dueFault("-9 at 3", "ice;what");
+        dueFault("-9 at 3", "way;what");
+        dueFault("-9 at 10", "way ahead ahead;what");
+        dueFault("-9 at 6", "ice 1 ice 5001;");
         dueFault("-8 at 6", "ice   5001;");
         dueFault("-9 at 6", "ice 1;1");
     }

@@ -102,15 +102,53 @@ final class State {
         tellRights(x, "rights now");
     }
 
-    /** Where the boats lie and go, by a rule that is told anew. */
+    /** Where the boats lie and go, found by another boat that is placed against each. */
     private void places() {
-        IceRegatta x = made();
-        x.rule(0);
-        Check.tell(x, "way ahead starboard leeward;");
-        tellRights(x, "rights by all ways");
-        x.wind(3);
-        Check.tell(x, "way leeward starboard ahead;");
-        tellRights(x, "rights by wind 3");
+        int boats = made().count(0);
+        for (int boat = 0; boat < boats; boat++) {
+            IceRegatta x = made();
+            int probe = boats == 1 ? x.boat() : boat == 0 ? 1 : 0;
+            x.rule(0);
+            int way = wayOf(x, boat, probe);
+            String point = coordinateOf(x, boat, probe, way, true) + ", " + coordinateOf(x, boat, probe, way, false);
+            tell("place of " + boat, point + " by " + way);
+        }
+    }
+
+    private static int wayOf(IceRegatta x, int boat, int probe) {
+        Check.tell(x, "way ahead;");
+        int[][] corners = {{0, 0}, {1000, 1000}, {1000, 0}};
+        for (int way = 0; way < 8; way++) {
+            for (int[] corner : corners) {
+                x.place(probe, corner[0], corner[1], way);
+                if (x.clear(boat, probe) != -1) {
+                    return way;
+                }
+            }
+        }
+        return -1;
+    }
+
+    private static int coordinateOf(IceRegatta x, int boat, int probe, int way, boolean isX) {
+        int more = isX ? 2 : 4;
+        x.wind(more);
+        // A boat on no TACK goes along the axis itself, so that "ahead" tells.
+        boolean isAlong = (way - more) % 4 == 0;
+        Check.tell(x, isAlong ? "way ahead;" : "way leeward;");
+        int least = 0;
+        int most = 1000;
+        while (least < most) {
+            int middle = (least + most) / 2;
+            x.place(probe, isX ? middle : 0, isX ? 0 : middle, way);
+            int keeper = x.clear(boat, probe);
+            boolean isMore = isAlong && way == more ? keeper == boat : keeper == probe;
+            if (keeper == -1 || isMore) {
+                most = middle;
+            } else {
+                least = middle + 1;
+            }
+        }
+        return least;
     }
 
     private void tellRights(IceRegatta x, String name) {
